@@ -495,7 +495,7 @@ public final class GraterOrder {
         }
     }
 
-    /** Reads a text TOKEN by TOKEN, and holds the first FAULT that was found. */
+    /** The TOKENS of a text one behind another, and the first FAULT that was found. */
     private static final class Reader {
         static final int END = 0;
         static final int WORD = 1;
@@ -505,36 +505,116 @@ public final class GraterOrder {
 
         private static final int LONGEST_WORD = 7;
         private static final int LONGEST_NUMBER = 3;
+        private static final int MOST_TOKENS = MOST_ORDER + 1;
         private static final String MARKS = ";<=>()";
 
-        private int[] text = new int[0];
-        private int length;
-        private int limit;
-        private int behind;
+        private int tokens;
+        private final int[] kindOf = new int[MOST_TOKENS];
+        private final int[] placeOf = new int[MOST_TOKENS];
+        private final long[] valueOf = new long[MOST_TOKENS];
+        private final Word[] wordOf = new Word[MOST_TOKENS];
+        private boolean isTooLong;
 
+        private int at;
         private int place;
         int kind;
         Word word = Word.OTHER;
-        long name;
-        int number;
-        int mark;
+        /** The letters of a WORD, eight bits each; a NUMBER; the sign of a mark. */
+        long value;
 
         int fault;
         int faultAt;
 
-        void open(int[] newText, int newLength, int most) {
-            text = newText;
-            length = Math.max(0, Math.min(newLength, newText.length));
-            limit = Math.min(length, most);
-            behind = 0;
+        Reader() {
+            for (int i = 0; i < MOST_TOKENS; i++) {
+                wordOf[i] = Word.OTHER;
+            }
+        }
+
+        /** TOKENS that begin ahead of the limit are read whole, and the end stands at the limit. */
+        void open(int[] text, int bytes, int most) {
+            int length = Math.max(0, Math.min(bytes, text.length));
+            int limit = Math.min(length, most);
+            int behind = 0;
+            tokens = 0;
+            for (int i = 0; i < limit; i++) {
+                if (i >= behind && !isBlank(text[i])) {
+                    behind = i + readToken(text, length, i);
+                }
+            }
+            addToken(END, limit, 0, Word.OTHER);
+            isTooLong = length > most;
             fault = 0;
             faultAt = 0;
-            advance();
+            at = 0;
+            load();
+        }
+
+        /** How many bytes the TOKEN has that begins there. */
+        private int readToken(int[] text, int length, int from) {
+            int letters = 0;
+            int digits = 0;
+            long name = 0;
+            int number = 0;
+            for (int i = from; i < length && isLetterOrDigit(text[i]); i++) {
+                if (text[i] >= 'a') {
+                    letters++;
+                    name = name << 8 | text[i];
+                } else {
+                    digits++;
+                    number = number * 10 + text[i] - '0';
+                }
+            }
+            if (letters + digits == 0) {
+                boolean isMark = MARKS.indexOf((char) text[from]) >= 0;
+                addToken(isMark ? MARK : NOTHING, from, text[from], Word.OTHER);
+                return 1;
+            }
+            if (digits == 0 && letters <= LONGEST_WORD) {
+                addToken(WORD, from, name, Word.at(text, from, letters));
+            } else if (letters == 0 && digits <= LONGEST_NUMBER) {
+                addToken(NUMBER, from, number, Word.OTHER);
+            } else {
+                addToken(NOTHING, from, 0, Word.OTHER);
+            }
+            return letters + digits;
+        }
+
+        private static boolean isBlank(int sign) {
+            return sign == ' ' || sign == '\n';
+        }
+
+        private static boolean isLetterOrDigit(int sign) {
+            return sign >= 'a' && sign <= 'z' || sign >= '0' && sign <= '9';
+        }
+
+        private void addToken(int newKind, int newPlace, long newValue, Word newWord) {
+            if (tokens < MOST_TOKENS) {
+                kindOf[tokens] = newKind;
+                placeOf[tokens] = newPlace;
+                valueOf[tokens] = newValue;
+                wordOf[tokens] = newWord;
+                tokens++;
+            }
+        }
+
+        private void load() {
+            kind = kindOf[at];
+            place = placeOf[at];
+            value = valueOf[at];
+            word = wordOf[at];
+        }
+
+        void advance() {
+            if (at < tokens - 1) {
+                at++;
+            }
+            load();
         }
 
         /** Whether the text is over: a text of too many bytes never is, its limit is a FAULT. */
         boolean isOver() {
-            return kind == END && limit == length;
+            return kind == END && !isTooLong;
         }
 
         boolean isName() {
@@ -542,7 +622,7 @@ public final class GraterOrder {
         }
 
         boolean isMark(int sign) {
-            return kind == MARK && mark == sign;
+            return kind == MARK && value == sign;
         }
 
         boolean refuse(int why) {
@@ -565,86 +645,13 @@ public final class GraterOrder {
                 refuse(NO_TOKEN);
                 return NONE;
             }
-            if (number < least || number > most) {
+            if (value < least || value > most) {
                 refuse(WRONG_NUMBER);
                 return NONE;
             }
-            int passed = number;
+            int passed = (int) value;
             advance();
             return passed;
-        }
-
-        void advance() {
-            word = Word.OTHER;
-            while (behind < length && isBlank(text[behind])) {
-                behind++;
-            }
-            if (behind >= limit) {
-                kind = END;
-                place = limit;
-                return;
-            }
-            place = behind;
-            if (isLetter(text[place]) || isDigit(text[place])) {
-                readRun();
-            } else {
-                readMark();
-            }
-        }
-
-        private void readMark() {
-            mark = text[place];
-            kind = MARKS.indexOf((char) mark) >= 0 ? MARK : NOTHING;
-            behind = place + 1;
-        }
-
-        private void readRun() {
-            int letters = 0;
-            int digits = 0;
-            while (behind < length && (isLetter(text[behind]) || isDigit(text[behind]))) {
-                if (isLetter(text[behind])) {
-                    letters++;
-                } else {
-                    digits++;
-                }
-                behind++;
-            }
-            if (digits == 0 && letters <= LONGEST_WORD) {
-                readWord();
-            } else if (letters == 0 && digits <= LONGEST_NUMBER) {
-                readNumber();
-            } else {
-                kind = NOTHING;
-            }
-        }
-
-        private void readWord() {
-            kind = WORD;
-            word = Word.at(text, place, behind - place);
-            name = 0;
-            for (int i = place; i < behind && i < text.length; i++) {
-                name = name << 8 | text[i];
-            }
-        }
-
-        private void readNumber() {
-            kind = NUMBER;
-            number = 0;
-            for (int i = place; i < behind && i < text.length; i++) {
-                number = number * 10 + text[i] - '0';
-            }
-        }
-
-        private static boolean isBlank(int sign) {
-            return sign == ' ' || sign == '\n';
-        }
-
-        private static boolean isLetter(int sign) {
-            return sign >= 'a' && sign <= 'z';
-        }
-
-        private static boolean isDigit(int sign) {
-            return sign >= '0' && sign <= '9';
         }
     }
 
@@ -729,7 +736,7 @@ public final class GraterOrder {
 
         /** The BROTHER whose NAME stands here; NONE and a FAULT if there is none. */
         int brotherAt(Reader r) {
-            int b = r.isName() ? brotherNamed(r.name) : NONE;
+            int b = r.isName() ? brotherNamed(r.value) : NONE;
             if (b == NONE) {
                 r.refuse(r.isName() ? WRONG_NAME : NO_TOKEN);
             }
@@ -738,7 +745,7 @@ public final class GraterOrder {
 
         /** The GRATER whose NAME stands here; NONE and a FAULT if there is none. */
         int graterAt(Reader r) {
-            int g = r.isName() ? graterNamed(r.name) : NONE;
+            int g = r.isName() ? graterNamed(r.value) : NONE;
             if (g == NONE) {
                 r.refuse(r.isName() ? WRONG_NAME : NO_TOKEN);
             }
@@ -776,7 +783,7 @@ public final class GraterOrder {
             if (!isNewName(r)) {
                 return false;
             }
-            brotherName[brothers] = r.name;
+            brotherName[brothers] = r.value;
             r.advance();
             block[brothers] = r.passNumber(1, 240);
             if (block[brothers] == NONE) {
@@ -798,7 +805,7 @@ public final class GraterOrder {
             if (!isNewName(r)) {
                 return false;
             }
-            graterName[graters] = r.name;
+            graterName[graters] = r.value;
             r.advance();
             teeth[graters] = r.passNumber(1, 9);
             if (teeth[graters] == NONE) {
@@ -816,7 +823,7 @@ public final class GraterOrder {
             if (!r.isName()) {
                 return r.refuse(NO_TOKEN);
             }
-            if (brotherNamed(r.name) != NONE || graterNamed(r.name) != NONE) {
+            if (brotherNamed(r.value) != NONE || graterNamed(r.value) != NONE) {
                 return r.refuse(WRONG_NAME);
             }
             return true;
@@ -1124,12 +1131,6 @@ public final class GraterOrder {
             worn[g] += side == SLICE ? 2 : 1;
         }
 
-        private void grateIfCan(int b, int c, int side) {
-            if (whyNotGrate(b, c, side) == 0) {
-                grateBlock(b, c, side);
-            }
-        }
-
         void passDays(int n) {
             for (int i = 0; i < n; i++) {
                 passDay();
@@ -1161,11 +1162,11 @@ public final class GraterOrder {
         }
 
         private void drawStroke(int b) {
-            int side = draw(SIDES + 1);
-            if (side < SIDES) {
-                grateIfCan(b, b, side);
-            } else {
-                grateIfCan(b, draw(order.brothers), FINE);
+            int lot = draw(SIDES + 1);
+            int whose = lot < SIDES ? b : draw(order.brothers);
+            int side = lot < SIDES ? lot : FINE;
+            if (whyNotGrate(b, whose, side) == 0) {
+                grateBlock(b, whose, side);
             }
         }
 
@@ -1450,10 +1451,12 @@ public final class GraterOrder {
             if (isBracket) {
                 return readCond(r, order, depth + 1) && r.passMark(')');
             }
-            if (first == Word.NOT) {
-                return readOne(r, order, depth + 1) && addStep(first, 0, 0);
+            switch (first) {
+                case NOT: return readOne(r, order, depth + 1) && addStep(first, 0, 0);
+                case WITH: return readWith(r, order);
+                case LEFT: case TODAY: case HURT: case NUMBER: return readMeasure(r, first);
+                default: return addStep(first, 0, 0);
             }
-            return readPlain(r, order, first);
         }
 
         private static boolean beginsOne(Word word) {
@@ -1463,14 +1466,6 @@ public final class GraterOrder {
                     return true;
                 default:
                     return false;
-            }
-        }
-
-        private boolean readPlain(Reader r, Order order, Word first) {
-            switch (first) {
-                case WITH: return readWith(r, order);
-                case LEFT: case TODAY: case HURT: case NUMBER: return readMeasure(r, first);
-                default: return addStep(first, 0, 0);
             }
         }
 
