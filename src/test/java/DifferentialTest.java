@@ -5,7 +5,9 @@ import java.util.Random;
 
 /** Random runs of calls on the class and on the plain model: every answer must be alike. */
 public final class DifferentialTest {
-  private static final int RUNS = 6000;
+  private static final int RUNS = 15000;
+  /** What an object answers later is free. */
+  private static final int MOST_CALLS = 512;
   private static final int THROWN = Integer.MIN_VALUE;
 
   private final Random random;
@@ -17,6 +19,7 @@ public final class DifferentialTest {
   private List<String> newBrothers = new ArrayList<>();
   private List<String> newGraters = new ArrayList<>();
   private boolean wrong = false;
+  private int calls = 0;
 
   private DifferentialTest(int seed) { random = new Random(seed); }
 
@@ -41,8 +44,9 @@ public final class DifferentialTest {
   private String oneOf(List<String> of, String otherwise) { return of.isEmpty() ? otherwise : of.get(below(of.size())); }
 
   private void same(String call, int got, int want) {
+    calls++;
     log.append(call).append(" -> ").append(got).append('\n');
-    if (got != want && !wrong) {
+    if (got != want && !wrong && calls <= MOST_CALLS) {
       wrong = true;
       log.append("   due is ").append(want).append('\n');
     }
@@ -51,6 +55,7 @@ public final class DifferentialTest {
 
   private void feed(String text) {
     int before = x.count(4);
+    calls++;
     log.append("text: ").append(text).append('\n');
     for (int at = 0; at < text.length(); at += 20) {
       int a = Check.number(text, at), b = Check.number(text, at + 4), c = Check.number(text, at + 8);
@@ -61,14 +66,13 @@ public final class DifferentialTest {
   }
 
   private void run() {
-    boolean big = chance(10);
-    int calls = 5 + below(big ? 250 : 60);
+    int steps = chance(30) ? 400 : 5 + below(60);
     if (chance(95)) order(chance(90));
-    for (int i = 0; i < calls && !wrong; i++) {
+    for (int i = 0; i < steps && calls < MOST_CALLS - 100 && !wrong; i++) {
       step();
-      if (chance(15)) observe();
+      if (chance(15)) observe(25);
     }
-    observe();
+    observe(MOST_CALLS - calls);
   }
 
   private int b() { return chance(3) ? below(20) - 8 : below(Math.max(1, brothers.size())); }
@@ -109,8 +113,14 @@ public final class DifferentialTest {
     same("restore " + k, x.restore(k), m.restore(k));
     brothers = new ArrayList<>();
     graters = new ArrayList<>();
-    for (int b = 0; b < x.count(0); b++) brothers.add(Check.tag(x, b).split(" ")[0]);
-    for (int b = 0; b < x.count(0); b++) m.tag(b);
+    int size = x.count(0);
+    calls++;
+    for (int b = 0; b < size; b++) {
+      String tag = Check.tag(x, b);
+      calls += 1 + tag.length();
+      brothers.add(tag.split(" ")[0]);
+      m.tag(b);
+    }
     for (String name : NAMES) if (!brothers.contains(name)) graters.add(name);
   }
 
@@ -129,28 +139,37 @@ public final class DifferentialTest {
     }
   }
 
-  private void observe() {
-    same("fault", x.fault(), m.fault());
-    same("look", x.look(), m.look());
-    for (int i = -2; i < 10; i++) {
-      same("now " + i, x.now(i), m.now(i));
-      same("count " + i, x.count(i), m.count(i));
-      same("told " + i, x.told(i), m.told(i));
-      same("said " + i, x.said(i), m.said(i));
-      same("strokesOf " + i, x.strokesOf(i), m.strokesOf(i));
-      same("heapOf " + i, x.heapOf(i), m.heapOf(i));
-      same("dealtOf " + i, x.dealtOf(i), m.dealtOf(i));
-      same("thief " + i, x.thief(i), m.thief(i));
-      same("gone " + i, x.gone(i), m.gone(i));
-      for (int j = -1; j < 9; j++) {
-        same("brother " + i + " " + j, brotherOr(false, i, j), brotherOr(true, i, j));
-        same("grater " + i + " " + j, x.grater(i, j), m.grater(i, j));
-        same("from " + i + " " + j, x.from(i, j), m.from(i, j));
-        same("time " + i + " " + j, timeOr(false, i, j), timeOr(true, i, j));
-        for (int s = -1; s < 4; s++) same("curl", x.curl(i, j, s), m.curl(i, j, s));
+  /** So many answers about what is so, or was told last; one in a while is asked of what there is not. */
+  private void observe(int answers) {
+    for (int i = 0; i < answers; i++) {
+      int b = b(), c = b(), g = g(), n = below(10) - 1;
+      switch (below(17)) {
+        case 0: same("fault", x.fault(), m.fault()); break;
+        case 1: same("look", x.look(), m.look()); break;
+        case 2: case 3: same("now " + n, x.now(n), m.now(n)); break;
+        case 4: same("count " + n, x.count(n), m.count(n)); break;
+        case 5: n = below(6) - 1; same("told " + n, x.told(n), m.told(n)); break;
+        case 6: n = below(7) - 2; same("said " + n, x.said(n), m.said(n)); break;
+        case 7: n = side(); same("strokesOf " + n, x.strokesOf(n), m.strokesOf(n)); break;
+        case 8: same("heapOf " + n, x.heapOf(n), m.heapOf(n)); break;
+        case 9: same("dealtOf " + n, x.dealtOf(n), m.dealtOf(n)); break;
+        case 10: same("thief " + b, x.thief(b), m.thief(b)); break;
+        case 11: same("gone " + b, x.gone(b), m.gone(b)); break;
+        case 12: case 13: same("brother " + b + " " + n, brotherOr(false, b, n), brotherOr(true, b, n)); break;
+        case 14: n = below(7) - 1; same("grater " + g + " " + n, x.grater(g, n), m.grater(g, n)); break;
+        case 15: same("from " + b + " " + c, x.from(b, c), m.from(b, c)); break;
+        default: observeRest(b, g); break;
       }
     }
-    for (int i = -1; i < 40; i++) same("byteAt " + i, x.byteAt(i), m.byteAt(i));
+  }
+
+  private void observeRest(int b, int g) {
+    int n = below(40) - 2, what = below(4) - 1, s = side();
+    switch (below(3)) {
+      case 0: same("byteAt " + n, x.byteAt(n), m.byteAt(n)); break;
+      case 1: same("time " + b + " " + what, timeOr(false, b, what), timeOr(true, b, what)); break;
+      default: same("curl " + g + " " + b + " " + s, x.curl(g, b, s), m.curl(g, b, s)); break;
+    }
   }
 
   private void order(boolean good) {
@@ -281,7 +300,7 @@ public final class DifferentialTest {
     if (text.length() > 900) text = text.substring(0, 900);
     feed(text);
     same("sentence", x.sentence(), m.sentence());
-    for (int k = -2; k < 8; k++) same("said " + k, x.said(k), m.said(k));
+    for (int k = -1; k < 3; k++) same("said " + k, x.said(k), m.said(k));
   }
 
   /** A text of about so many bytes, its blanks made more. */

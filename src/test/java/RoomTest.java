@@ -64,7 +64,7 @@ public final class RoomTest {
       Random r = new Random(seed);
       GraterOrder x = seed % 3 == 0 ? new GraterOrder() : Check.with(seed % 3 == 1 ? Check.ORDER : full);
       x.image(seed & 1);
-      for (int i = 0; i < 512; i++) {
+      for (int i = 0; i < 280; i++) {
         try {
           call(x, r);
         } catch (NoSuchElementException e) {
