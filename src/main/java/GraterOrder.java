@@ -1670,9 +1670,10 @@ public final class GraterOrder {
 
         int leastSum(State state) {
             int brothers = state.order.brothers;
+            int sets = 1 << state.order.graters;
             Arrays.fill(least[brothers], 0);
             for (int b = brothers - 1; b >= 0; b--) {
-                for (int dealt = 0; dealt < SETS; dealt++) {
+                for (int dealt = 0; dealt < sets; dealt++) {
                     least[b][dealt] = sumWith(state, b, dealt, choose(state, b, dealt));
                 }
             }
@@ -1691,9 +1692,10 @@ public final class GraterOrder {
             int chosen = NONE;
             int best = sumWith(state, b, dealt, NONE);
             for (int g = state.order.graters - 1; g >= 0; g--) {
-                if ((dealt & 1 << g) == 0 && sumWith(state, b, dealt, g) <= best) {
+                int sum = (dealt & 1 << g) == 0 ? sumWith(state, b, dealt, g) : best + 1;
+                if (sum <= best) {
                     chosen = g;
-                    best = sumWith(state, b, dealt, g);
+                    best = sum;
                 }
             }
             return chosen;
