@@ -546,8 +546,8 @@ public final class GraterOrder {
             isTooLong = length > most;
             fault = 0;
             faultAt = 0;
-            at = 0;
-            load();
+            at = -1;
+            advance();
         }
 
         /** How many bytes the TOKEN has that begins there. */
@@ -598,18 +598,15 @@ public final class GraterOrder {
             }
         }
 
-        private void load() {
-            kind = kindOf[at];
-            place = placeOf[at];
-            value = valueOf[at];
-            word = wordOf[at];
-        }
-
+        /** The next TOKEN; behind the end there is none. */
         void advance() {
-            if (at < tokens - 1) {
+            if (at + 1 < tokens) {
                 at++;
+                kind = kindOf[at];
+                place = placeOf[at];
+                value = valueOf[at];
+                word = wordOf[at];
             }
-            load();
         }
 
         /** Whether the text is over: a text of too many bytes never is, its limit is a FAULT. */

@@ -68,6 +68,10 @@ public final class DifferentialTest {
   private void run() {
     int steps = chance(30) ? 400 : 5 + below(60);
     if (chance(95)) order(chance(90));
+    for (int i = chance(10) ? 0 : 7; i < 7; i++) {
+      int n = 55 + below(6);
+      same("days " + n, x.days(n), m.days(n));
+    }
     for (int i = 0; i < steps && calls < MOST_CALLS - 100 && !wrong; i++) {
       step();
       if (chance(15)) observe(25);
