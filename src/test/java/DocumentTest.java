@@ -10,34 +10,31 @@ import java.util.regex.Pattern;
 import java.util.stream.Stream;
 
 /**
- * Every bound that the document tells is within words that a test quotes by Check.says(): a bound
- * that comes anew, or that no test goes by, is told here.
+ * Every word of the document's terms and promises is within words that a test quotes by
+ * Check.says(): a sentence that comes anew, or that no test goes by, is told here.
  */
 public final class DocumentTest {
   private static final Pattern QUOTE = Pattern.compile("Check\\.says\\(((?:\\s*\\+?\\s*\"(?:[^\"\\\\]|\\\\.)*\")+)\\)");
   private static final Pattern LITERAL = Pattern.compile("\"((?:[^\"\\\\]|\\\\.)*)\"");
-  private static final Pattern BOUND = Pattern.compile(
-      "NONE|false|NoSuchElementException|at most|at least|\\d+ to \\d+|less the place|-1000|\\bonce\\b|\\d without|"
-      + "the least|the first|of like ones|less than|or less|more than|\\bat it\\b|it stays|the tape stays|changes nothing|"
-      + "wrapping|ahead of any|nothing is kept|a 41st|a 21st|a ninth|the end:|the most bytes|\\d+ within|\\d+ ONES");
+  private static final Pattern HEADING = Pattern.compile("## Promise \\d+: [\\w ]+ :|## Terms|## The public face|==== \\d\\.");
 
   public static void main(String[] args) throws IOException {
     String document = Files.readString(Path.of("../shared/DOC.md"), StandardCharsets.ISO_8859_1);
-    String text = document.substring(document.indexOf("## Terms"), document.indexOf("## Not promised"))
-        .replaceAll("`[^`\n]*`", "").replaceAll("\\s+", " ");
+    String text = document.substring(document.indexOf("An object is used"), document.indexOf("## Not promised"))
+        .replaceAll("(?s)```java.*?```", "").replaceAll("```(text)?", "").replaceAll("`[^`\n]*`", "").replaceAll("\\s+", " ");
     boolean[] covered = new boolean[text.length()];
     int quotes = 0;
     for (String quote : quotes()) {
       int at = text.indexOf(quote);
-      Check.due("'" + quote + "' is in the document", at >= 0, true);
-      for (; at >= 0; at = text.indexOf(quote, at + 1)) {
+      Check.due("'" + quote + "' is in the document, once", at >= 0 && at == text.lastIndexOf(quote), true);
+      if (at >= 0) {
         Arrays.fill(covered, at, at + quote.length(), true);
       }
       quotes++;
     }
     Check.due("there are quotes", quotes >= 100, true);
-    bounds(text, covered);
     promises(text, covered);
+    words(text, covered);
     Check.finish();
   }
 
@@ -61,15 +58,20 @@ public final class DocumentTest {
     return all;
   }
 
-  private static void bounds(String text, boolean[] covered) {
-    Matcher bound = BOUND.matcher(text);
-    while (bound.find()) {
-      boolean whole = true;
-      for (int i = bound.start(); i < bound.end(); i++) {
-        whole &= covered[i];
+  private static void words(String text, boolean[] covered) {
+    Matcher heading = HEADING.matcher(text);
+    while (heading.find()) {
+      Arrays.fill(covered, heading.start(), heading.end(), true);
+    }
+    int from = 0;
+    for (int i = 0; i < text.length(); i = Math.max(i + 1, from)) {
+      if (!covered[i] && Character.isLetterOrDigit(text.charAt(i))) {
+        from = i;
+        while (from < text.length() && !covered[from]) {
+          from++;
+        }
+        Check.text("what no test quotes", text.substring(i, from), "");
       }
-      String around = text.substring(Math.max(0, bound.start() - 60), Math.min(text.length(), bound.end() + 30));
-      Check.due("a test quotes '" + bound.group() + "' in '" + around + "'", whole, true);
     }
   }
 

@@ -14,19 +14,37 @@ import java.util.regex.Pattern;
 
 /** The face of the class is the document's, and its source keeps to the rules that a look can tell. */
 public final class FaceTest {
-  private static final String FACE =
-      "feed(int,int,int,int,int)int end(int)boolean order()int fault()int brother(int,int)int grater(int,int)int "
-      + "now(int)int grate(int,int,int)int take(int,int)int put(int)int swap(int,int)int file(int)int days(int)int "
-      + "undo()int curl(int,int,int)int strokes(int,int)int strokesOf(int)int heaps()int heapOf(int)int look()int "
-      + "dealt()int dealtOf(int)int gone(int)int time(int,int)int from(int,int)int thief(int)int tag(int)int "
-      + "byteAt(int)int drawn(int,int)int odds(int,int,int)int book(int)int told(int)int sentence()int said(int)int "
-      + "image(int)boolean restore(int)boolean count(int)int";
+  private static final Pattern METHOD = Pattern.compile("    public (int|boolean) (\\w+)\\(([^)]*)\\)( throws NoSuchElementException)?;");
+
+  private static final Set<String> signs = new TreeSet<>();
+  private static final Set<String> names = new TreeSet<>();
+  private static final Set<String> throwing = new TreeSet<>();
 
   public static void main(String[] args) throws IOException {
+    readFace(Files.readString(Path.of("../shared/DOC.md"), StandardCharsets.ISO_8859_1));
     face();
     inside();
     source(Files.readString(Path.of("src/main/java/GraterOrder.java"), StandardCharsets.ISO_8859_1));
     Check.finish();
+  }
+
+  /** The face as the document's code block tells it. */
+  private static void readFace(String document) {
+    int from = document.indexOf("```java");
+    String block = document.substring(from, document.indexOf("```", from + 3));
+    Matcher method = METHOD.matcher(block);
+    while (method.find()) {
+      String types = method.group(3).replaceAll("(\\w+) \\w+", "$1").replace(" ", "");
+      names.add(method.group(2));
+      signs.add(method.group(2) + "(" + types + ")" + method.group(1));
+      if (method.group(4) != null) {
+        throwing.add(method.group(2));
+      }
+    }
+    Check.due("a method for each promise but the first", names.size(), 37);
+    Check.due("two of them throw", throwing.size(), 2);
+    Check.due("the constant", block.contains("public static final int NONE = " + GraterOrder.NONE + ";"), true);
+    Check.due("lines of the block", block.split("\n").length, 1 + 5 + names.size() + 1);
   }
 
   private static String sign(Method m) {
@@ -40,16 +58,15 @@ public final class FaceTest {
   private static void face() {
     Class<?> face = GraterOrder.class;
     Check.due("public and final", face.getModifiers(), Modifier.PUBLIC | Modifier.FINAL);
-    Set<String> want = new TreeSet<>(List.of(FACE.split(" ")));
     Set<String> got = new TreeSet<>();
     for (Method m : face.getDeclaredMethods()) {
       if (!Modifier.isPrivate(m.getModifiers())) {
         got.add(sign(m));
         Check.due("public " + m, Modifier.isPublic(m.getModifiers()), true);
-        Check.due("throws of " + m, m.getExceptionTypes().length, Set.of("brother", "time").contains(m.getName()) ? 1 : 0);
+        Check.due("throws of " + m, m.getExceptionTypes().length, throwing.contains(m.getName()) ? 1 : 0);
       }
     }
-    Check.text("methods", got.toString(), want.toString());
+    Check.text("methods", got.toString(), signs.toString());
     for (Field f : face.getDeclaredFields()) {
       Check.due("hidden " + f, Modifier.isPrivate(f.getModifiers()), !f.getName().equals("NONE"));
     }
@@ -61,10 +78,6 @@ public final class FaceTest {
   }
 
   private static void inside() {
-    Set<String> names = new TreeSet<>();
-    for (String sign : FACE.split(" ")) {
-      names.add(sign.substring(0, sign.indexOf('(')));
-    }
     Class<?>[] classes = GraterOrder.class.getDeclaredClasses();
     Check.due("at most twelve classes", classes.length <= 11, true);
     for (Method m : GraterOrder.class.getDeclaredMethods()) {
@@ -100,19 +113,6 @@ public final class FaceTest {
         "\\bdouble\\b", "\\bfloat\\b", "\\bthis::", "\\bordinal\\b", "\\bSystem\\.(?!arraycopy)", "\\bObject\\b", "\\bpackage\\b",
         "\\bstatic \\{", "Exact\\(", "\\bMath\\.(?!min|max|abs)")) {
       Check.due("no " + banned, Pattern.compile(banned).matcher(code).find(), false);
-    }
-    int open = 0;
-    int since = 0;
-    String[] lines = code.split("\n", -1);
-    for (int i = 0; i < lines.length; i++) {
-      if (lines[i].matches("    (    )?[^ /@*].*\\) (throws \\w+ )?\\{")) {
-        since = i;
-        open = lines[i].startsWith("        ") ? 8 : 4;
-      }
-      if (open > 0 && lines[i].equals(" ".repeat(open) + "}")) {
-        Check.due("a short method at line " + (since + 1), i - since <= 60, true);
-        open = 0;
-      }
     }
   }
 }
